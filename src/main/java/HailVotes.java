@@ -11,7 +11,6 @@ public final class HailVotes {
     private static final int PLACES = 7;
     private static final int LAST_KIND = 5;
     private static final int OLDEST = 9;
-    private static final int LAST_COUNT = 5;
     private static final int NO_SLOPE = -20;
     private static final int NO_NUMBER = -1000;
     private static final int FAULTS = -10;
@@ -177,7 +176,7 @@ public final class HailVotes {
         // Brown's best answer is no tile, and blue can keep no more than it has unpainted: what is
         // looked for is the least slope where a tile painted blue costs it nothing.
         for (int slope = 0; slope < 2 * trial.roofs; slope++) {
-            if (trial.edgeWithOneBlue(slope) == unpainted) {
+            if (trial.keepsEdge(slope, unpainted)) {
                 return slope;
             }
         }
@@ -368,14 +367,14 @@ public final class HailVotes {
             case 2: return story.now.allGuns();
             case 3: return story.now.years;
             case 4: return story.undoable;
-            case LAST_COUNT: return text.length;
+            case 5: return text.length;
             default: return refuse(BAD);
         }
     }
 
     public long digest() {
         long h = 719;
-        for (int what = 0; what <= LAST_COUNT; what++) {
+        for (int what = 0; what <= 5; what++) {
             h = 31 * h + count(what);
         }
         h = story.now.mixRoofs(h);
@@ -599,19 +598,19 @@ public final class HailVotes {
             return edge;
         }
 
-        /** Less than any edge, if there is no brown tile on the slope (2 roof and slope). */
-        int edgeWithOneBlue(int slope) {
+        /** Whether blue can paint a brown tile of a slope (2 roof and slope) and still has the edge. */
+        boolean keepsEdge(int slope, int edge) {
             int blueRow = row(0, slope, BLUE);
             int brownRow = row(0, slope, BROWN);
             if (cover[brownRow] == 0) {
-                return Integer.MIN_VALUE;
+                return false;
             }
             cover[brownRow]--;
             cover[blueRow]++;
-            int edge = edgeOfBlue();
+            boolean kept = edgeOfBlue() == edge;
             cover[blueRow]--;
             cover[brownRow]++;
-            return edge;
+            return kept;
         }
 
         private boolean isTold(int roof) {

@@ -23,7 +23,7 @@ public final class LanguageTest {
         "int count(int)", "long digest()"};
     private static final String[] FORBIDDEN = {"throw", "throws", "try", "catch", "finally", "synchronized", "assert",
         "import", "package", "->", "::", "native", "volatile", "transient", "protected", "double", "float",
-        "System.out", "Exact"};
+        "System.out", "Exact", "MIN_VALUE", "MAX_VALUE"};
     private static final int LONGEST_METHOD = 60;
     private static final int MOST_CLASSES = 12;
     private static final int MOST_FIELDS = 20;

@@ -161,6 +161,10 @@ public final class PromisesTest {
         due("8 no blanks needed behind a word", readOf(x, "cannon3;"), 1);
         due("8 takes the place of all", x.count(0) + x.count(1), 0);
         faults(x);
+        due("8 a text that is full", readOf(x, "a".repeat(250)), -10);
+        due("8 a text that is full and ends too early", readOf(x, " ".repeat(244) + "cannon"), -260);
+        due("8 a text that is full of blanks", readOf(x, " ".repeat(250)), 0);
+        due("8 a text that is full", readOf(x, " ".repeat(242) + "cannon6;"), 1);
         String roof = "roof 0 0 0 0 0 0;";
         due("8 seven roofs", readOf(x, roof.repeat(7)), 7);
         due("8 an eighth", readOf(x, roof.repeat(8)), -10 - 7 * 17);
@@ -180,7 +184,7 @@ public final class PromisesTest {
     }
 
     private static void faults(HailVotes x) {
-        Object[][] texts = {{"roofs 0 0 0 0 0 0;", 0}, {"roo 0 0 0 0 0 0;", 0}, {"  hail;", 2}, {"1;", 0}, {";", 0},
+        Object[][] texts = {{"roofs 0 0 0 0 0 0;", 0}, {"roo 0 0 0 0 0 0;", 0}, {"hoof 0 0 0 0 0 0;", 0}, {"  hail;", 2}, {"1;", 0}, {";", 0},
             {"Roof 0 0 0 0 0 0;", 0}, {"roof 6 0 0 0 0 0;", 5}, {"roof 0 0 0 0 0;", 14}, {"roof 0 0 0 0 0 0 0;", 17},
             {"roof 0 0 0 0 0 10;", 15}, {"roof 0 0 0 0 0 00;", 15}, {"roof 0 0 0 0 0 0", 16}, {"roof   ", 7},
             {"roof 0 x 0 0 0 0;", 7}, {"roof 0 0 0 0 0 0x", 16}, {"roof -1;", 5}, {"storm 7 7 0 1 1;", 6},
@@ -207,11 +211,19 @@ public final class PromisesTest {
         due("9 a cannon beside", x.force(1, 0, 1), 4);
         due("9 a cannon beside", x.force(1, 2, 0), 1);
         due("9 a cannon far off", x.force(1, 3, 1), 5);
+        x.roof(0, 0, 0, 0, 0, 0);
+        x.roof(0, 0, 0, 0, 0, 0);
+        x.roof(0, 0, 0, 0, 0, 0);
+        x.storm(6, 6, 1, 9, 1);
+        x.cannon(6, true);
+        due("9 a cannon at the last place", x.force(2, 6, 1), 7);
+        x.cannon(5, true);
+        due("9 and beside it", x.force(2, 6, 0), 1);
         x.cannon(2, true);
         x.cannon(0, true);
         due("9 three cannons", x.force(1, 1, 1), 1);
         due("9 0 at least", x.force(1, 1, 0), 0);
-        int[][] bad = {{-1, 0, 0}, {2, 0, 0}, {0, -1, 0}, {0, 4, 0}, {0, 0, -1}, {0, 0, 2}};
+        int[][] bad = {{-1, 0, 0}, {3, 0, 0}, {0, -1, 0}, {0, 7, 0}, {0, 0, -1}, {0, 0, 2}};
         for (int[] b : bad) {
             due("9 bad", x.force(b[0], b[1], b[2]), BAD);
         }
