@@ -505,7 +505,8 @@ public final class HailVotes {
             int blown = slope == wind[storm] ? size[storm] : size[storm] / 2;
             int before = roof > 0 ? guns[roof - 1] : 0;
             int behind = roof < PLACES - 1 ? guns[roof + 1] : 0;
-            return Math.max(0, blown - 2 * guns[roof] - before - behind);
+            int left = blown - 2 * guns[roof] - before - behind;
+            return left > 0 ? left : 0;
         }
 
         /** How many tiles of each paint the force and the kind would break, were there enough. */
